@@ -5,7 +5,8 @@ public final class ChosenTest {
     public static void main(String[] args) {
         asTheyAreNow();
         halfIsNoMajority();
-        sameBallotNotSameValue();
+        oneNode();
+        sameValueOtherBallot();
         wrongInputs();
         DUE.end();
     }
@@ -64,7 +65,16 @@ public final class ChosenTest {
         DUE.is("chosen(0): not with node 0", x.chosen(0), 6);
     }
 
-    private static void sameBallotNotSameValue() {
+    private static void oneNode() {
+        DecreePool x = new DecreePool(1, 1, 8);
+        x.prepare(0, 0, 0, 6);
+        x.sweep(2);
+        DUE.is("chosen(0)", x.chosen(0), 0);
+        x.sweep(1);
+        DUE.is("chosen(0) of one node", x.chosen(0), 6);
+    }
+
+    private static void sameValueOtherBallot() {
         DecreePool x = new DecreePool(3, 1, 64);
         x.prepare(0, 0, 0, 6);
         x.deliver(0);

@@ -15,6 +15,7 @@ public final class DeliverTest {
         learnedOnce();
         receiverDown();
         fullForAPromise();
+        promisesWithoutMajorityFit();
         fullForAnAccept();
         evenNodes();
         oneNode();
@@ -350,6 +351,23 @@ public final class DeliverTest {
         DUE.is("count(0)", x.count(0), 5);
         DUE.is("deliver(2): a prepare always fits", x.deliver(2), 1);
         DUE.is("deliver(2): the third promise sends nothing", x.deliver(2), 2);
+    }
+
+    private static void promisesWithoutMajorityFit() {
+        DecreePool x = new DecreePool(3, 1, 5);
+        x.prepare(0, 0, 0, 7);
+        x.deliver(0);
+        x.duplicate(0);
+        x.duplicate(0);
+        DUE.is("count(0)", x.count(0), 5);
+        DUE.is("deliver(0): the first promise", x.deliver(0), 2);
+        DUE.is("deliver(3): its sender again", x.deliver(3), 2);
+        DUE.is("proposer(0, 0, 2)", x.proposer(0, 0, 2), 1);
+        x.duplicate(4);
+        x.duplicate(4);
+        DUE.is("deliver(1)", x.deliver(1), 1);
+        DUE.is("count(0)", x.count(0), 5);
+        DUE.is("deliver(1): the one that makes a majority", x.deliver(1), DecreePool.FULL);
     }
 
     private static void fullForAnAccept() {
