@@ -3,98 +3,72 @@ public final class ChosenTest {
     private static final Due DUE = new Due();
 
     public static void main(String[] args) {
+        byAMajority();
+        withTheSameBallot();
         asTheyAreNow();
-        halfIsNoMajority();
-        oneNode();
-        sameValueOtherBallot();
-        wrongInputs();
+        noneAtAll();
+        noSuchSlot();
         DUE.end();
     }
 
-    private static void allOfKind(DecreePool x, int kind) {
-        for (int m = 0; m < x.count(3); m++) {
-            if (x.message(m, 0) == kind) {
-                x.deliver(m);
+    private static void byAMajority() {
+        DUE.of("accepted with the same ballot by a majority of acceptors; 0 when there is none");
+        int[] majority = {0, 1, 2, 2, 3, 3};
+        for (int n = 1; n <= 5; n++) {
+            for (int first = 0; first < n; first++) {
+                Run run = Run.of(n, 2, 64).elect(n - 1, 1, 0, 7);
+                for (int i = 1; i <= n; i++) {
+                    DUE.unchanged(run, i <= majority[n] ? 0 : 7, "chosen", 1);
+                    run = run.hand(3, n - 1, (first + i) % n, n - 1);
+                }
+                DUE.unchanged(run, 7, "chosen", 1);
+                DUE.unchanged(run, 0, "chosen", 0);
             }
         }
     }
 
-    private static int acceptAt(DecreePool x, int ballot, int node) {
-        for (int m = 0; m < x.count(3); m++) {
-            if (x.message(m, 0) == 3 && x.message(m, 2) == node && x.message(m, 4) == ballot) {
-                return x.deliver(m);
-            }
-        }
-        return 0;
+    private static void withTheSameBallot() {
+        DUE.of("with the same ballot: the same value of other ballots does not do");
+        // Node 0 has accepted 6 with ballot 0, node 2 has accepted 6 with ballot 1.
+        Run run = Run.of(3, 1, 16).elect(0, 0, 0, 6).deliver(0).empty()
+                .prepare(1, 0, 0, 6).deliver(1, 2).drop(0).deliver(1, 2).deliver(2);
+        DUE.is(run, 0, "acceptor", 0, 0, 1);
+        DUE.is(run, 6, "acceptor", 0, 0, 2);
+        DUE.is(run, 1, "acceptor", 2, 0, 1);
+        DUE.is(run, 6, "acceptor", 2, 0, 2);
+        DUE.is(run, 0, "chosen", 0);
+        DUE.is(run.hand(3, 1, 1, 1), 6, "chosen", 0);
     }
 
     private static void asTheyAreNow() {
-        DecreePool x = new DecreePool(3, 2, 64);
-        x.prepare(0, 1, 0, 6);
-        allOfKind(x, 1);
-        allOfKind(x, 2);
-        DUE.is("accept at 0", acceptAt(x, 0, 0), 3);
-        DUE.is("chosen(1)", x.chosen(1), 0);
-        DUE.is("accept at 2", acceptAt(x, 0, 2), 3);
-        DUE.is("chosen(1)", x.chosen(1), 6);
-        DUE.is("chosen(0)", x.chosen(0), 0);
-        x.crash(0);
-        x.crash(2);
-        DUE.is("chosen(1) of nodes that are down", x.chosen(1), 6);
-        x.restart(0);
-        x.restart(2);
-        DUE.is("chosen(1)", x.chosen(1), 6);
-        x.prepare(1, 1, 1, 8);
-        allOfKind(x, 1);
-        allOfKind(x, 2);
-        DUE.is("accept of 4 at 0", acceptAt(x, 4, 0), 3);
-        DUE.is("chosen(1): the ballots are apart now", x.chosen(1), 0);
-        DUE.is("accept of 4 at 1", acceptAt(x, 4, 1), 3);
-        DUE.is("chosen(1)", x.chosen(1), 6);
+        DUE.of("as they are now");
+        Run run = Run.of(3, 2, 32).elect(0, 1, 0, 6).hand(3, 0, 0, 0).hand(3, 0, 2, 0);
+        DUE.is(run, 6, "chosen", 1);
+        DUE.is(run.crash(0, 2), 6, "chosen", 1);
+        DUE.is(run.crash(0, 2).restart(0, 2), 6, "chosen", 1);
+        Run apart = run.empty().elect(1, 1, 1, 8).hand(3, 1, 0, 4);
+        DUE.is(apart, 0, "chosen", 1);
+        DUE.is(apart.hand(3, 1, 1, 4), 6, "chosen", 1);
     }
 
-    private static void halfIsNoMajority() {
-        DecreePool x = new DecreePool(4, 1, 64);
-        x.prepare(0, 0, 0, 6);
-        allOfKind(x, 1);
-        allOfKind(x, 2);
-        acceptAt(x, 0, 1);
-        acceptAt(x, 0, 2);
-        DUE.is("chosen(0)", x.chosen(0), 0);
-        acceptAt(x, 0, 3);
-        DUE.is("chosen(0): not with node 0", x.chosen(0), 6);
+    private static void noneAtAll() {
+        DUE.of("0 when there is none: ballots that were only promised, or nothing");
+        for (int n = 1; n <= 5; n++) {
+            Run run = Run.of(n, 1, 32);
+            DUE.is(run, 0, "chosen", 0);
+            DUE.is(run.elect(0, 0, 0, 6), 0, "chosen", 0);
+        }
     }
 
-    private static void oneNode() {
-        DecreePool x = new DecreePool(1, 1, 8);
-        x.prepare(0, 0, 0, 6);
-        x.sweep(2);
-        DUE.is("chosen(0)", x.chosen(0), 0);
-        x.sweep(1);
-        DUE.is("chosen(0) of one node", x.chosen(0), 6);
-    }
-
-    private static void sameValueOtherBallot() {
-        DecreePool x = new DecreePool(3, 1, 64);
-        x.prepare(0, 0, 0, 6);
-        x.deliver(0);
-        x.deliver(1);
-        x.deliver(0);
-        x.deliver(1);
-        acceptAt(x, 0, 0);
-        x.prepare(1, 0, 0, 6);
-        allOfKind(x, 1);
-        allOfKind(x, 2);
-        acceptAt(x, 1, 2);
-        DUE.is("acceptor(0, 0, 2)", x.acceptor(0, 0, 2), 6);
-        DUE.is("acceptor(2, 0, 2)", x.acceptor(2, 0, 2), 6);
-        DUE.is("chosen(0)", x.chosen(0), 0);
-    }
-
-    private static void wrongInputs() {
-        DecreePool x = new DecreePool(3, 2, 16);
-        for (int slot : new int[] {-1, 2, Integer.MIN_VALUE, Integer.MAX_VALUE}) {
-            DUE.is("chosen(" + slot + ")", x.chosen(slot), -1);
+    private static void noSuchSlot() {
+        DUE.of("NONE: no such slot");
+        for (int slots = 1; slots <= 4; slots++) {
+            Run run = Run.of(3, slots, 20).decide(0, 0, 0, 6).decide(0, slots - 1, 1, 6);
+            DUE.is(run, 6, "chosen", 0);
+            DUE.is(run, 6, "chosen", slots - 1);
+            for (int slot : Due.outside(0, slots - 1)) {
+                DUE.unchanged(run, -1, "chosen", slot);
+            }
         }
     }
 }

@@ -1,428 +1,223 @@
-/** Promise 3: deliver, and what the terms say of each kind of message. */
+/** Promise 3: deliver. What a delivery does is tested in DeliveryTermsTest. */
 public final class DeliverTest {
+    private static final int FULL = DecreePool.FULL;
     private static final Due DUE = new Due();
 
     public static void main(String[] args) {
-        wrongPlaces();
-        aPrepare();
-        aPrepareThatIsNotGreater();
-        aPromise();
-        promisesThatDoNotCount();
-        theBestOne();
-        anAccept();
-        anAccepted();
-        heardOnlyWhenGreater();
-        learnedOnce();
+        itsKind();
+        noSuchPlace();
+        noMessageInIt();
         receiverDown();
-        fullForAPromise();
-        promisesWithoutMajorityFit();
-        fullForAnAccept();
-        evenNodes();
-        oneNode();
+        fullForAccepts();
+        fullForAccepteds();
+        oneAnswerFitsAFullPool();
+        noAnswerFitsAFullPool();
+        receiverDownFitsAFullPool();
         DUE.end();
     }
 
-    private static void fields(DecreePool x, int m, int... want) {
-        for (int what = 0; what < 7; what++) {
-            DUE.is("message(" + m + ", " + what + ")", x.message(m, what), want[what]);
+    // A place with a message of each kind, which goes to node 1, at the index of its kind.
+    private static Run[] oneOfEachKind() {
+        Run prepared = Run.of(3, 1, 16).prepare(1, 0, 1, 6);
+        Run accepts = prepared.deliver(0, 1, 0);
+        return new Run[] {
+            null, prepared.drop(0, 2), prepared.deliver(0).drop(1, 2), accepts.deliver(1).drop(2, 3),
+            accepts.deliver(1, 0).drop(0, 1, 2, 3), Run.of(3, 1, 16).decide(0, 0, 0, 6).tell(2, 0),
+        };
+    }
+
+    private static int placeOf(Run run, int kind) {
+        for (int m = 0; m < 16; m++) {
+            if (run.model().message(m, 0) == kind && run.model().message(m, 2) == 1) {
+                return m;
+            }
+        }
+        throw new IllegalStateException("no message of kind " + kind + " behind " + run);
+    }
+
+    private static void itsKind() {
+        DUE.of("The message in a place is delivered: its kind");
+        Run[] runs = oneOfEachKind();
+        for (int kind = 1; kind <= 5; kind++) {
+            DUE.is(runs[kind], kind, "deliver", placeOf(runs[kind], kind));
         }
     }
 
-    private static void wrongPlaces() {
-        DecreePool x = new DecreePool(3, 1, 6);
-        x.prepare(0, 0, 0, 4);
-        for (int m : new int[] {-1, 3, 5, 6, Integer.MIN_VALUE, Integer.MAX_VALUE}) {
-            DUE.is("deliver(" + m + ")", x.deliver(m), -1);
+    private static void noSuchPlace() {
+        DUE.of("NONE there is no such place");
+        for (int places : new int[] {5, 6, 32, 63, 64}) {
+            Run run = Run.of(1, 1, places).prepare(0, 0, 0, 4).leaving(0, 0);
+            DUE.is(run, 1, "deliver", 0);
+            DUE.is(run, 1, "deliver", places - 1);
+            for (int m : Due.outside(0, places - 1)) {
+                DUE.unchanged(run, -1, "deliver", m);
+            }
         }
-        DUE.is("count(0)", x.count(0), 3);
-        DUE.is("count(4)", x.count(4), 0);
     }
 
-    private static void aPrepare() {
-        DecreePool x = new DecreePool(3, 2, 8);
-        x.prepare(2, 1, 3, 4);
-        DUE.is("deliver(1)", x.deliver(1), 1);
-        fields(x, 1, 2, 1, 2, 1, 11, 0, -1);
-        DUE.is("acceptor(1, 1, 0)", x.acceptor(1, 1, 0), 11);
-        DUE.is("acceptor(1, 0, 0)", x.acceptor(1, 0, 0), -1);
-        DUE.is("acceptor(0, 1, 0)", x.acceptor(0, 1, 0), -1);
-        DUE.is("acceptor(1, 1, 1)", x.acceptor(1, 1, 1), -1);
-        Due.decide(x, 2, 1, 4, 4);
-        x.prepare(0, 1, 9, 6);
-        x.deliver(0);
-        fields(x, 0, 2, 0, 0, 1, 27, 4, 14);
-    }
-
-    private static void aPrepareThatIsNotGreater() {
-        DecreePool x = new DecreePool(3, 1, 16);
-        x.prepare(1, 0, 0, 4);
-        x.prepare(0, 0, 0, 5);
-        DUE.is("duplicate(2)", x.duplicate(2), 6);
-        DUE.is("deliver(2)", x.deliver(2), 1);
-        DUE.is("count(0)", x.count(0), 7);
-        DUE.is("deliver(6): the same ballot", x.deliver(6), 1);
-        DUE.is("count(0)", x.count(0), 6);
-        DUE.is("deliver(5): a lesser ballot", x.deliver(5), 1);
-        DUE.is("count(0)", x.count(0), 5);
-        DUE.is("acceptor(2, 0, 0)", x.acceptor(2, 0, 0), 1);
-    }
-
-    private static void aPromise() {
-        DecreePool x = new DecreePool(3, 1, 16);
-        x.prepare(1, 0, 2, 12);
-        x.deliver(0);
-        x.deliver(1);
-        x.deliver(2);
-        DUE.is("deliver(2)", x.deliver(2), 2);
-        DUE.is("proposer(1, 0, 0)", x.proposer(1, 0, 0), 1);
-        DUE.is("proposer(1, 0, 2)", x.proposer(1, 0, 2), 1);
-        DUE.is("count(0)", x.count(0), 2);
-        DUE.is("deliver(0)", x.deliver(0), 2);
-        DUE.is("proposer(1, 0, 0)", x.proposer(1, 0, 0), 2);
-        DUE.is("proposer(1, 0, 4)", x.proposer(1, 0, 4), 12);
-        fields(x, 0, 3, 1, 0, 0, 7, 12, -1);
-        fields(x, 2, 3, 1, 1, 0, 7, 12, -1);
-        fields(x, 3, 3, 1, 2, 0, 7, 12, -1);
-        DUE.is("deliver(1): a third promise", x.deliver(1), 2);
-        DUE.is("proposer(1, 0, 2)", x.proposer(1, 0, 2), 2);
-        DUE.is("count(0)", x.count(0), 3);
-    }
-
-    private static void promisesThatDoNotCount() {
-        DecreePool x = new DecreePool(3, 1, 16);
-        x.prepare(0, 0, 0, 12);
-        x.deliver(1);
-        x.duplicate(1);
-        x.duplicate(1);
-        x.deliver(1);
-        DUE.is("deliver(3): the same sender again", x.deliver(3), 2);
-        DUE.is("proposer(0, 0, 2)", x.proposer(0, 0, 2), 1);
-        DUE.is("proposer(0, 0, 0)", x.proposer(0, 0, 0), 1);
-        x.prepare(0, 0, 1, 12);
-        DUE.is("deliver(4): of an older ballot", x.deliver(4), 2);
-        DUE.is("proposer(0, 0, 2)", x.proposer(0, 0, 2), 0);
-        x.deliver(1);
-        DUE.is("message(1, 0)", x.message(1, 0), 2);
-        x.crash(0);
-        x.restart(0);
-        DUE.is("deliver(1): in phase 0", x.deliver(1), 2);
-        DUE.is("proposer(0, 0, 0)", x.proposer(0, 0, 0), 0);
-        DUE.is("proposer(0, 0, 2)", x.proposer(0, 0, 2), 0);
-    }
-
-    // Node 1 has accepted 20 with ballot 0, node 2 has accepted 30 with ballot 6.
-    private static DecreePool twoAccepted() {
-        DecreePool x = new DecreePool(5, 1, 64);
-        x.prepare(0, 0, 0, 20);
+    private static void noMessageInIt() {
+        DUE.of("NONE there is no message in it");
+        Run run = Run.of(3, 1, 6).prepare(0, 0, 0, 4);
         for (int m = 0; m < 3; m++) {
-            x.deliver(m);
+            DUE.is(run, 1, "deliver", m);
+            DUE.unchanged(run.drop(m), -1, "deliver", m);
         }
-        for (int m = 0; m < 3; m++) {
-            x.deliver(m);
+        for (int m = 3; m < 6; m++) {
+            DUE.unchanged(run, -1, "deliver", m);
         }
-        deliverTo(x, 3, 1);
-        empty(x);
-        x.prepare(1, 0, 1, 30);
-        for (int m = 2; m < 5; m++) {
-            x.deliver(m);
-        }
-        for (int m = 2; m < 5; m++) {
-            x.deliver(m);
-        }
-        deliverTo(x, 3, 2);
-        empty(x);
-        DUE.is("acceptor(1, 0, 1)", x.acceptor(1, 0, 1), 0);
-        DUE.is("acceptor(1, 0, 2)", x.acceptor(1, 0, 2), 20);
-        DUE.is("acceptor(2, 0, 1)", x.acceptor(2, 0, 1), 6);
-        DUE.is("acceptor(2, 0, 2)", x.acceptor(2, 0, 2), 30);
-        return x;
-    }
-
-    private static void deliverTo(DecreePool x, int kind, int receiver) {
-        for (int m = 0; m < x.count(3); m++) {
-            if (x.message(m, 0) == kind && x.message(m, 2) == receiver) {
-                x.deliver(m);
-                return;
-            }
-        }
-        DUE.is("a message of kind " + kind + " to " + receiver, 0, 1);
-    }
-
-    private static void empty(DecreePool x) {
-        for (int m = 0; m < x.count(3); m++) {
-            x.drop(m);
-        }
-    }
-
-    private static void theBestOne() {
-        int[][] orders = {{1, 2, 3}, {2, 1, 3}, {3, 2, 1}, {2, 3, 1}};
-        for (int[] order : orders) {
-            DecreePool x = twoAccepted();
-            x.prepare(4, 0, 2, 40);
-            for (int node : order) {
-                DUE.is("a prepare", x.deliver(node), 1);
-            }
-            int best = -1;
-            for (int node : order) {
-                DUE.is("a promise", x.deliver(node), 2);
-                best = Math.max(best, node == 1 ? 0 : node == 2 ? 6 : -1);
-                DUE.is("proposer(4, 0, 3)", x.proposer(4, 0, 3), best);
-            }
-            DUE.is("proposer(4, 0, 0)", x.proposer(4, 0, 0), 2);
-            DUE.is("proposer(4, 0, 4)", x.proposer(4, 0, 4), 30);
-            DUE.is("message(6, 5)", x.message(6, 5), 30);
-        }
-        DecreePool y = twoAccepted();
-        y.prepare(4, 0, 2, 40);
-        for (int node : new int[] {0, 3, 4, 0, 3, 4}) {
-            y.deliver(node);
-        }
-        DUE.is("proposer(4, 0, 3): none told", y.proposer(4, 0, 3), -1);
-        DUE.is("proposer(4, 0, 4): the wish", y.proposer(4, 0, 4), 40);
-    }
-
-    private static void anAccept() {
-        DecreePool x = new DecreePool(3, 1, 32);
-        x.prepare(0, 0, 1, 8);
-        x.deliver(0);
-        x.deliver(1);
-        x.deliver(0);
-        x.deliver(1);
-        // The accepts of ballot 3 are in places 0, 1 and 3; node 2 has promised nothing yet.
-        DUE.is("deliver(3): more than what was promised", x.deliver(3), 3);
-        DUE.is("acceptor(2, 0, 0)", x.acceptor(2, 0, 0), 3);
-        DUE.is("acceptor(2, 0, 1)", x.acceptor(2, 0, 1), 3);
-        DUE.is("acceptor(2, 0, 2)", x.acceptor(2, 0, 2), 8);
-        fields(x, 3, 4, 2, 0, 0, 3, 8, -1);
-        fields(x, 4, 4, 2, 1, 0, 3, 8, -1);
-        fields(x, 5, 4, 2, 2, 0, 3, 8, -1);
-        DUE.is("deliver(0): just what was promised", x.deliver(0), 3);
-        DUE.is("acceptor(0, 0, 1)", x.acceptor(0, 0, 1), 3);
-        x.prepare(1, 0, 1, 9);
-        deliverTo(x, 1, 1);
-        DUE.is("acceptor(1, 0, 0)", x.acceptor(1, 0, 0), 4);
-        int before = x.count(0);
-        DUE.is("message(1, 0)", x.message(1, 0), 3);
-        DUE.is("deliver(1): less than what was promised", x.deliver(1), 3);
-        DUE.is("acceptor(1, 0, 0)", x.acceptor(1, 0, 0), 4);
-        DUE.is("acceptor(1, 0, 1)", x.acceptor(1, 0, 1), -1);
-        DUE.is("acceptor(1, 0, 2)", x.acceptor(1, 0, 2), 0);
-        DUE.is("count(0)", x.count(0), before - 1);
-        sameAcceptAgain();
-    }
-
-    private static void sameAcceptAgain() {
-        DecreePool x = new DecreePool(1, 1, 8);
-        x.prepare(0, 0, 0, 5);
-        x.sweep(2);
-        x.duplicate(0);
-        DUE.is("deliver(0)", x.deliver(0), 3);
-        DUE.is("deliver(1): the same accept again", x.deliver(1), 3);
-        DUE.is("count(0): both were answered", x.count(0), 2);
-        DUE.is("message(1, 0)", x.message(1, 0), 4);
-    }
-
-    private static void anAccepted() {
-        DecreePool x = new DecreePool(5, 1, 64);
-        x.prepare(0, 0, 0, 8);
-        for (int kind = 1; kind <= 3; kind++) {
-            for (int m = 0; m < 64; m++) {
-                if (x.message(m, 0) == kind) {
-                    x.deliver(m);
-                }
-            }
-        }
-        int heard = 0;
-        for (int m = 0; m < 64; m++) {
-            if (x.message(m, 0) == 4 && x.message(m, 2) == 3) {
-                int sender = x.message(m, 1);
-                DUE.is("heard(3, 0, sender)", x.heard(3, 0, sender), -1);
-                DUE.is("learned(3, 0)", x.learned(3, 0), heard >= 3 ? 8 : 0);
-                DUE.is("deliver", x.deliver(m), 4);
-                heard++;
-                DUE.is("heard(3, 0, sender)", x.heard(3, 0, sender), 0);
-                DUE.is("learned(3, 0)", x.learned(3, 0), heard >= 3 ? 8 : 0);
-            }
-        }
-        DUE.is("accepted messages to node 3", heard, 5);
-        DUE.is("learned(2, 0)", x.learned(2, 0), 0);
-    }
-
-    private static void heardOnlyWhenGreater() {
-        DecreePool x = new DecreePool(1, 1, 8);
-        x.prepare(0, 0, 0, 5);
-        x.sweep(3);
-        x.prepare(0, 0, 1, 6);
-        DUE.is("message(0, 0)", x.message(0, 0), 4);
-        DUE.is("deliver(1)", x.deliver(1), 1);
-        DUE.is("deliver(1)", x.deliver(1), 2);
-        DUE.is("deliver(1)", x.deliver(1), 3);
-        DUE.is("message(1, 5)", x.message(1, 5), 5);
-        DUE.is("deliver(1)", x.deliver(1), 4);
-        DUE.is("heard(0, 0, 0)", x.heard(0, 0, 0), 1);
-        DUE.is("deliver(0): a lesser ballot", x.deliver(0), 4);
-        DUE.is("heard(0, 0, 0)", x.heard(0, 0, 0), 1);
-    }
-
-    // Ballots that two senders tell apart make no majority, even if their values are the same.
-    private static void learnedOnce() {
-        DecreePool x = new DecreePool(3, 1, 64);
-        x.prepare(0, 0, 0, 7);
-        x.sweep(100);
-        x.crash(2);
-        x.restart(2);
-        x.prepare(1, 0, 1, 9);
-        x.duplicate(0);
-        for (int kind = 1; kind <= 3; kind++) {
-            for (int m = 0; m < 64; m++) {
-                if (x.message(m, 0) == kind) {
-                    x.deliver(m);
-                }
-            }
-        }
-        for (int m = 0; m < 64; m++) {
-            if (x.message(m, 2) == 2 && x.message(m, 1) == 0) {
-                x.duplicate(m);
-                break;
-            }
-        }
-        int delivered = 0;
-        for (int m = 0; m < 64 && delivered < 2; m++) {
-            if (x.message(m, 2) == 2 && x.message(m, 1) == 0) {
-                x.deliver(m);
-                delivered++;
-                DUE.is("learned(2, 0): one sender is no majority", x.learned(2, 0), 0);
-            }
-        }
-        DUE.is("delivered", delivered, 2);
-        x.sweep(100);
-        DUE.is("learned(2, 0)", x.learned(2, 0), 7);
-        DUE.is("heard(2, 0, 1)", x.heard(2, 0, 1), 4);
+        Run taken = run.deliver(0, 0);
+        DUE.unchanged(taken, -1, "deliver", 0);
     }
 
     private static void receiverDown() {
-        DecreePool x = new DecreePool(3, 1, 5);
-        x.prepare(0, 0, 0, 7);
-        x.crash(1);
-        DUE.is("deliver(1)", x.deliver(1), 0);
-        DUE.is("message(1, 0)", x.message(1, 0), -1);
-        DUE.is("acceptor(1, 0, 0)", x.acceptor(1, 0, 0), -1);
-        DUE.is("count(4)", x.count(4), 1);
-        DUE.is("count(5)", x.count(5), 1);
-        x.crash(0);
-        DUE.is("deliver(2): the sender is down", x.deliver(2), 1);
-        DUE.is("message(1, 0)", x.message(1, 0), 2);
-        DUE.is("acceptor(2, 0, 0)", x.acceptor(2, 0, 0), 0);
-    }
-
-    private static void fullForAPromise() {
-        DecreePool x = new DecreePool(3, 1, 5);
-        x.prepare(0, 0, 0, 7);
-        x.deliver(0);
-        x.deliver(1);
-        x.deliver(0);
-        x.duplicate(1);
-        x.duplicate(1);
-        DUE.is("count(0)", x.count(0), 4);
-        DUE.is("deliver(1): 1 place and its own for 3", x.deliver(1), DecreePool.FULL);
-        DUE.is("count(0)", x.count(0), 4);
-        DUE.is("count(4)", x.count(4), 3);
-        DUE.is("message(1, 0)", x.message(1, 0), 2);
-        DUE.is("proposer(0, 0, 0)", x.proposer(0, 0, 0), 1);
-        DUE.is("proposer(0, 0, 2)", x.proposer(0, 0, 2), 1);
-        x.crash(0);
-        x.duplicate(2);
-        DUE.is("count(0)", x.count(0), 5);
-        DUE.is("deliver(0): to a node that is down", x.deliver(0), 0);
-        x.restart(0);
-        DUE.is("deliver(1): in phase 0 it sends nothing", x.deliver(1), 2);
-        fullForAPromiseAtTheEdge();
-    }
-
-    private static void fullForAPromiseAtTheEdge() {
-        DecreePool x = new DecreePool(3, 1, 5);
-        x.prepare(0, 0, 0, 7);
-        x.deliver(0);
-        x.deliver(1);
-        x.deliver(0);
-        x.duplicate(2);
-        DUE.is("count(0)", x.count(0), 3);
-        DUE.is("deliver(1): 2 places and its own for 3", x.deliver(1), 2);
-        DUE.is("count(0)", x.count(0), 5);
-        DUE.is("deliver(2): a prepare always fits", x.deliver(2), 1);
-        DUE.is("deliver(2): the third promise sends nothing", x.deliver(2), 2);
-    }
-
-    private static void promisesWithoutMajorityFit() {
-        DecreePool x = new DecreePool(3, 1, 5);
-        x.prepare(0, 0, 0, 7);
-        x.deliver(0);
-        x.duplicate(0);
-        x.duplicate(0);
-        DUE.is("count(0)", x.count(0), 5);
-        DUE.is("deliver(0): the first promise", x.deliver(0), 2);
-        DUE.is("deliver(3): its sender again", x.deliver(3), 2);
-        DUE.is("proposer(0, 0, 2)", x.proposer(0, 0, 2), 1);
-        x.duplicate(4);
-        x.duplicate(4);
-        DUE.is("deliver(1)", x.deliver(1), 1);
-        DUE.is("count(0)", x.count(0), 5);
-        DUE.is("deliver(1): the one that makes a majority", x.deliver(1), DecreePool.FULL);
-    }
-
-    private static void fullForAnAccept() {
-        DecreePool x = new DecreePool(3, 1, 5);
-        x.prepare(0, 0, 0, 7);
-        x.deliver(0);
-        x.deliver(1);
-        x.deliver(0);
-        x.deliver(1);
-        DUE.is("count(0)", x.count(0), 4);
-        DUE.is("message(0, 0)", x.message(0, 0), 3);
-        DUE.is("deliver(0)", x.deliver(0), DecreePool.FULL);
-        DUE.is("acceptor(0, 0, 1)", x.acceptor(0, 0, 1), -1);
-        DUE.is("count(0)", x.count(0), 4);
-        DUE.is("drop(2)", x.drop(2), 1);
-        DUE.is("deliver(0)", x.deliver(0), 3);
-        DUE.is("acceptor(0, 0, 1)", x.acceptor(0, 0, 1), 0);
-        DUE.is("count(0)", x.count(0), 5);
-        refusedAcceptFits();
-    }
-
-    private static void refusedAcceptFits() {
-        DecreePool x = new DecreePool(3, 1, 7);
-        x.prepare(0, 0, 0, 7);
-        for (int m : new int[] {0, 1, 0, 1, 2, 2}) {
-            x.deliver(m);
+        DUE.of("0 when the receiver is down; if its receiver is down, that is all");
+        Run[] runs = oneOfEachKind();
+        for (int kind = 1; kind <= 5; kind++) {
+            Run down = runs[kind].crash(1);
+            int m = placeOf(down, kind);
+            DUE.is(down, 0, "deliver", m);
+            DUE.alikeButDeliveries(down.deliver(m), down.drop(m));
+            DUE.is(down.deliver(m), down.answer(new Call("count", 4)) + 1, "count", 4);
+            DUE.is(down.restart(1), kind, "deliver", m);
         }
-        x.prepare(1, 0, 0, 8);
-        DUE.is("count(0)", x.count(0), 6);
-        DUE.is("deliver(2): a prepare to node 0", x.deliver(2), 1);
-        DUE.is("message(0, 2)", x.message(0, 2), 0);
-        DUE.is("duplicate(0)", x.duplicate(0), 6);
-        DUE.is("deliver(0): no place, but nothing to send", x.deliver(0), 3);
-        DUE.is("deliver(1): 1 place and its own for 3", x.deliver(1), DecreePool.FULL);
+        DUE.of("0 when the receiver is down, and not when the sender is");
+        Run senderDown = Run.of(3, 1, 16).prepare(1, 0, 1, 6).crash(1);
+        DUE.is(senderDown, 1, "deliver", 0);
+        DUE.is(senderDown, 0, "deliver", 1);
+        DUE.is(senderDown, 1, "deliver", 2);
+        DUE.is(senderDown.deliver(2), 2, "message", 2, 0);
     }
 
-    private static void evenNodes() {
-        DecreePool x = new DecreePool(4, 1, 32);
-        x.prepare(0, 0, 0, 7);
-        for (int m : new int[] {0, 1, 2, 0, 1}) {
-            x.deliver(m);
+    // The places of the promises are those of their senders; the last one makes the majority.
+    private static Run lacksOnePromise(int n, int places) {
+        Run run = Run.of(n, 1, places).prepare(0, 0, 2, 7);
+        for (int i = 0; i < Run.majority(n); i++) {
+            run = run.deliver(i);
         }
-        DUE.is("proposer(0, 0, 0): half is no majority", x.proposer(0, 0, 0), 1);
-        x.deliver(2);
-        DUE.is("proposer(0, 0, 0)", x.proposer(0, 0, 0), 2);
+        for (int i = 0; i < Run.majority(n) - 1; i++) {
+            run = run.deliver(i);
+        }
+        return run;
     }
 
-    private static void oneNode() {
-        DecreePool x = new DecreePool(1, 1, 5);
-        x.prepare(0, 0, 1000, 7);
-        for (int kind = 1; kind <= 4; kind++) {
-            DUE.is("deliver(0)", x.deliver(0), kind);
+    private static void fullForAccepts() {
+        DUE.of("more accepts would be sent than places are empty (with the message's own one): FULL");
+        for (int n = 2; n <= 5; n++) {
+            for (int places : new int[] {10, 64}) {
+                Run run = lacksOnePromise(n, places);
+                int m = Run.majority(n) - 1;
+                for (int empty = 0; empty < n - 1; empty++) {
+                    DUE.unchanged(run.leaving(empty, m), FULL, "deliver", m);
+                }
+                Run fits = run.leaving(n - 1, m);
+                DUE.is(fits, 2, "deliver", m);
+                DUE.is(fits.deliver(m), places, "count", 0);
+                DUE.is(fits.deliver(m), 2, "proposer", 0, 0, 0);
+                Run roomMade = run.leaving(n - 2, m).deliver(m).drop(places + 1 - n);
+                DUE.is(roomMade, 2, "deliver", m);
+            }
         }
-        DUE.is("deliver(0)", x.deliver(0), -1);
-        DUE.is("learned(0, 0)", x.learned(0, 0), 7);
-        DUE.is("heard(0, 0, 0)", x.heard(0, 0, 0), 1000);
+        Run alone = lacksOnePromise(1, 5).leaving(0, 0);
+        DUE.is(alone, 2, "deliver", 0);
+        DUE.is(alone.deliver(0), 3, "message", 0, 0);
+    }
+
+    private static void fullForAccepteds() {
+        DUE.of("more accepteds would be sent than places are empty (with the message's own): FULL");
+        for (int n = 2; n <= 5; n++) {
+            for (int places : new int[] {10, 64}) {
+                Run run = Run.of(n, 1, places).elect(0, 0, 2, 7);
+                int m = n - 1;
+                for (int empty = 0; empty < n - 1; empty++) {
+                    DUE.unchanged(run.leaving(empty, 0), FULL, "deliver", m);
+                }
+                Run fits = run.leaving(n - 1, 0);
+                DUE.is(fits, 3, "deliver", m);
+                DUE.is(fits.deliver(m), places, "count", 0);
+                DUE.is(fits.deliver(m), 2 * n, "acceptor", m, 0, 1);
+                Run roomMade = run.leaving(n - 2, 0).deliver(m).drop(places + 1 - n);
+                DUE.is(roomMade, 3, "deliver", m);
+            }
+        }
+        Run alone = Run.of(1, 1, 5).elect(0, 0, 2, 7).leaving(0, 0);
+        DUE.is(alone, 3, "deliver", 0);
+        DUE.is(alone.deliver(0), 4, "message", 0, 0);
+    }
+
+    private static void oneAnswerFitsAFullPool() {
+        DUE.of("places are empty (with the message's own one): one promise has room");
+        for (int n = 1; n <= 5; n++) {
+            Run run = Run.of(n, 1, 8).prepare(0, 0, 2, 7).leaving(0, 0);
+            for (int m = 0; m < 8; m++) {
+                DUE.is(run, 1, "deliver", m);
+                DUE.is(run.deliver(m), 2, "message", m, 0);
+                DUE.is(run.deliver(m), 8, "count", 0);
+            }
+        }
+    }
+
+    // Fills the pool up and delivers: made, and the message's own place is empty then.
+    private static void fitsAFullPool(Run run, int answer, int m) {
+        Run full = run.leaving(0, m);
+        DUE.is(full, FULL, "duplicate", m);
+        DUE.is(full, answer, "deliver", m);
+        DUE.is(full.deliver(m), full.model().count(3) - 1, "count", 0);
+        DUE.is(full.deliver(m), -1, "message", m, 0);
+    }
+
+    private static void noAnswerFitsAFullPool() {
+        DUE.of("A delivery by which more would be sent: not one by which nothing is");
+        for (int n = 2; n <= 5; n++) {
+            Run prepared = Run.of(n, 1, 20).prepare(0, 0, 2, 7);
+            fitsAFullPool(prepared.duplicate(0).deliver(0), 1, n);
+            fitsAFullPool(prepared.deliver(0), 2, 0);
+            fitsAFullPool(sameSenderAgain(n), 2, n);
+            fitsAFullPool(promiseOfAnOlderBallot(n), 2, Run.majority(n) - 1);
+            fitsAFullPool(lacksOnePromise(n, 20).crash(0).restart(0), 2, Run.majority(n) - 1);
+            if (n > 2) {
+                fitsAFullPool(promiseBeyondTheMajority(n), 2, Run.majority(n));
+            }
+            Run accepts = Run.of(n, 1, 20).elect(0, 0, 2, 7);
+            fitsAFullPool(accepts.prepare(n - 1, 0, 2, 9).deliver(n + 1), 3, 1);
+            fitsAFullPool(accepts.deliver(0), 4, 0);
+            fitsAFullPool(Run.of(n, 1, 20).decide(0, 0, 2, 7).tell(1, 0), 5, 0);
+        }
+    }
+
+    private static Run sameSenderAgain(int n) {
+        Run run = Run.of(n, 1, 20).prepare(0, 0, 2, 7).deliver(0).duplicate(0);
+        for (int i = 1; i < Run.majority(n) - 1; i++) {
+            run = run.deliver(i, i);
+        }
+        return run.deliver(0);
+    }
+
+    private static Run promiseOfAnOlderBallot(int n) {
+        int last = Run.majority(n) - 1;
+        Run run = Run.of(n, 1, 20).prepare(0, 0, 2, 7).deliver(last).prepare(0, 0, 3, 8);
+        for (int i = 0; i < last; i++) {
+            run = run.deliver(n + i, n + i);
+        }
+        return run;
+    }
+
+    private static Run promiseBeyondTheMajority(int n) {
+        Run run = Run.of(n, 1, 20).prepare(0, 0, 2, 7);
+        for (int i = 0; i < n; i++) {
+            run = run.deliver(i);
+        }
+        for (int i = 0; i < Run.majority(n); i++) {
+            run = run.deliver(i);
+        }
+        return run;
+    }
+
+    private static void receiverDownFitsAFullPool() {
+        DUE.of("if its receiver is down, that is all: nothing is sent that lacks a place");
+        for (int n = 2; n <= 5; n++) {
+            fitsAFullPool(lacksOnePromise(n, 20).crash(0), 0, Run.majority(n) - 1);
+            fitsAFullPool(Run.of(n, 1, 20).elect(0, 0, 2, 7).crash(1), 0, 1);
+            fitsAFullPool(Run.of(n, 1, 20).prepare(0, 0, 2, 7).crash(1), 0, 1);
+        }
     }
 }

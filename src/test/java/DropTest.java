@@ -3,38 +3,61 @@ public final class DropTest {
     private static final Due DUE = new Due();
 
     public static void main(String[] args) {
-        DecreePool x = new DecreePool(1, 1, 5);
-        for (int m : new int[] {-1, 0, 4, 5, Integer.MIN_VALUE, Integer.MAX_VALUE}) {
-            DUE.is("drop(" + m + ") of nothing", x.drop(m), -1);
-        }
-        DUE.is("count(5)", x.count(5), 0);
-        for (int kind = 1; kind <= 4; kind++) {
-            x.prepare(0, 0, kind, 6);
-            x.sweep(kind - 1);
-            DUE.is("drop(0)", x.drop(0), kind);
-            DUE.is("drop(0) again", x.drop(0), -1);
-            DUE.is("count(0)", x.count(0), 0);
-            DUE.is("count(5)", x.count(5), kind);
-        }
-        Due.decide(x, 0, 0, 9, 6);
-        x.tell(0, 0);
-        int delivered = x.count(4);
-        x.crash(0);
-        DUE.is("drop(0) of what goes to a node that is down", x.drop(0), 5);
-        DUE.is("count(5)", x.count(5), 5);
-        DUE.is("count(4): no delivery", x.count(4), delivered);
-        othersStay();
+        itsKind();
+        itIsLost();
+        noSuchPlace();
+        noMessageInIt();
         DUE.end();
     }
 
-    private static void othersStay() {
-        DecreePool x = new DecreePool(3, 1, 5);
-        x.prepare(0, 0, 0, 6);
-        DUE.is("drop(1)", x.drop(1), 1);
-        DUE.is("message(0, 2)", x.message(0, 2), 0);
-        DUE.is("message(1, 0)", x.message(1, 0), -1);
-        DUE.is("message(2, 2)", x.message(2, 2), 2);
-        DUE.is("count(0)", x.count(0), 2);
-        DUE.is("acceptor(1, 0, 0)", x.acceptor(1, 0, 0), -1);
+    private static void itsKind() {
+        DUE.of("The message in a place is lost: its kind");
+        Run run = Run.of(1, 1, 5);
+        for (int kind = 1; kind <= 4; kind++) {
+            DUE.is(run.prepare(0, 0, 0, 6).sweep(kind - 1), kind, "drop", 0);
+        }
+        DUE.is(run.decide(0, 0, 0, 6).tell(0, 0), 5, "drop", 0);
+    }
+
+    private static void itIsLost() {
+        DUE.of("The message in a place is lost");
+        Run run = Run.of(3, 1, 5).prepare(0, 0, 0, 6);
+        DUE.is(run.drop(1), 1, "message", 0, 0);
+        DUE.is(run.drop(1), -1, "message", 1, 0);
+        DUE.is(run.drop(1), 1, "message", 2, 0);
+        DUE.is(run.drop(1), 2, "count", 0);
+        DUE.is(run.drop(1), 0, "count", 4);
+        DUE.is(run.drop(1), 1, "count", 5);
+        DUE.is(run.drop(1), -1, "acceptor", 1, 0, 0);
+        DUE.of("The message in a place is lost: to a node that is down, too");
+        DUE.is(run.crash(1), 1, "drop", 1);
+        DUE.is(run.crash(1).drop(1), 0, "count", 4);
+        DUE.is(run.crash(1).drop(1), 1, "count", 5);
+    }
+
+    private static void noSuchPlace() {
+        DUE.of("NONE: there is none, as there is no such place");
+        for (int places : new int[] {5, 6, 32, 63, 64}) {
+            Run run = Run.of(1, 1, places).prepare(0, 0, 0, 4).leaving(0, 0);
+            DUE.is(run, 1, "drop", 0);
+            DUE.is(run, 1, "drop", places - 1);
+            DUE.is(run.drop(places - 1), places - 1, "count", 0);
+            for (int m : Due.outside(0, places - 1)) {
+                DUE.unchanged(run, -1, "drop", m);
+            }
+        }
+    }
+
+    private static void noMessageInIt() {
+        DUE.of("NONE: there is none in the place");
+        Run run = Run.of(3, 1, 6).prepare(0, 0, 0, 4);
+        for (int m = 0; m < 3; m++) {
+            DUE.is(run, 1, "drop", m);
+            DUE.unchanged(run.drop(m), -1, "drop", m);
+        }
+        for (int m = 3; m < 6; m++) {
+            DUE.unchanged(run, -1, "drop", m);
+        }
+        DUE.unchanged(run.deliver(0, 0), -1, "drop", 0);
     }
 }

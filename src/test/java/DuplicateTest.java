@@ -3,46 +3,82 @@ public final class DuplicateTest {
     private static final Due DUE = new Due();
 
     public static void main(String[] args) {
-        places();
         everyFieldOfEachKind();
+        thePlaceWhereItIs();
+        noSuchPlace();
+        noMessageInIt();
+        full();
         DUE.end();
     }
 
-    private static void places() {
-        DecreePool x = new DecreePool(3, 1, 5);
-        for (int m : new int[] {-1, 0, 4, 5, Integer.MIN_VALUE, Integer.MAX_VALUE}) {
-            DUE.is("duplicate(" + m + ") of nothing", x.duplicate(m), -1);
+    private static void everyFieldOfEachKind() {
+        DUE.of("A copy of the message in a place is sent");
+        Run decided = Run.of(3, 2, 16).decide(1, 1, 2, 6);
+        for (int kind = 1; kind <= 5; kind++) {
+            Run run = kind == 5 ? decided.tell(2, 1) : decided.prepare(2, 1, 3, 8);
+            for (int i = 0; i < 16 && run.model().message(0, 0) != kind; i++) {
+                run = run.sweep(1);
+            }
+            DUE.is(run, kind, "message", 0, 0);
+            long place = run.answer(new Call("duplicate", 0));
+            for (int what = 0; what < 7; what++) {
+                DUE.is(run.duplicate(0), run.answer(new Call("message", 0, what)),
+                        "message", (int) place, what);
+                DUE.is(run.duplicate(0), run.answer(new Call("message", 0, what)),
+                        "message", 0, what);
+            }
+            DUE.is(run.duplicate(0), run.answer(new Call("count", 0)) + 1, "count", 0);
+            DUE.is(run.duplicate(0), run.answer(new Call("count", 4)), "count", 4);
+            DUE.is(run.duplicate(0), run.answer(new Call("count", 5)), "count", 5);
         }
-        x.prepare(0, 0, 0, 6);
-        DUE.is("duplicate(2)", x.duplicate(2), 3);
-        x.drop(0);
-        DUE.is("duplicate(3): the least empty place", x.duplicate(3), 0);
-        DUE.is("duplicate(1): the last place", x.duplicate(1), 4);
-        DUE.is("count(0)", x.count(0), 5);
-        DUE.is("duplicate(0)", x.duplicate(0), DecreePool.FULL);
-        DUE.is("duplicate(5): NONE before FULL", x.duplicate(5), -1);
-        DUE.is("count(0)", x.count(0), 5);
-        DUE.is("count(4)", x.count(4), 0);
-        DUE.is("count(5): what was dropped", x.count(5), 1);
     }
 
-    private static void everyFieldOfEachKind() {
-        for (int kind = 1; kind <= 5; kind++) {
-            DecreePool x = new DecreePool(3, 2, 16);
-            Due.decide(x, 1, 1, 2, 6);
-            if (kind == 5) {
-                x.tell(2, 1);
-            } else {
-                x.prepare(2, 1, 3, 8);
+    private static void thePlaceWhereItIs() {
+        DUE.of("the place where it is: the empty place with the least number");
+        Run run = Run.of(3, 1, 8).prepare(0, 0, 0, 6);
+        DUE.is(run, 3, "duplicate", 2);
+        DUE.is(run.drop(0), 0, "duplicate", 2);
+        DUE.is(run.drop(1), 1, "duplicate", 0);
+        DUE.is(run.duplicate(2), 4, "duplicate", 3);
+    }
+
+    private static void noSuchPlace() {
+        DUE.of("NONE: there is none, as there is no such place");
+        for (int places : new int[] {5, 6, 32, 63, 64}) {
+            Run full = Run.of(1, 1, places).prepare(0, 0, 0, 4).leaving(0, 0);
+            Run oneEmpty = full.drop(1);
+            DUE.is(oneEmpty, 1, "duplicate", 0);
+            DUE.is(oneEmpty, 1, "duplicate", places - 1);
+            for (int m : Due.outside(0, places - 1)) {
+                DUE.unchanged(oneEmpty, -1, "duplicate", m);
+                DUE.unchanged(full, -1, "duplicate", m);
             }
-            for (int m = 0; m < 16 && x.message(0, 0) != kind; m++) {
-                x.sweep(1);
-            }
-            DUE.is("message(0, 0)", x.message(0, 0), kind);
-            int place = x.duplicate(0);
-            for (int what = 0; what < 7; what++) {
-                DUE.is("kind " + kind + ": message(" + place + ", " + what + ")",
-                        x.message(place, what), x.message(0, what));
+        }
+    }
+
+    private static void noMessageInIt() {
+        DUE.of("NONE: there is none in the place");
+        Run run = Run.of(3, 1, 6).prepare(0, 0, 0, 4);
+        for (int m = 0; m < 3; m++) {
+            DUE.unchanged(run.drop(m), -1, "duplicate", m);
+        }
+        for (int m = 3; m < 6; m++) {
+            DUE.unchanged(run, -1, "duplicate", m);
+        }
+        DUE.unchanged(run.deliver(0, 0), -1, "duplicate", 0);
+    }
+
+    private static void full() {
+        DUE.of("FULL");
+        for (int n = 1; n <= 5; n++) {
+            for (int places : new int[] {6, 32, 64}) {
+                Run run = Run.of(n, 1, places).prepare(0, 0, 0, 6).leaving(1, 0);
+                Run full = run.duplicate(0);
+                DUE.is(run, places - 1, "duplicate", 0);
+                DUE.is(full, places, "count", 0);
+                DUE.unchanged(full, DecreePool.FULL, "duplicate", 0);
+                DUE.unchanged(full, DecreePool.FULL, "duplicate", places - 1);
+                DUE.is(full.drop(2), 2, "duplicate", places - 1);
             }
         }
     }
