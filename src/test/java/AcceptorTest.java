@@ -17,7 +17,7 @@ public final class AcceptorTest {
     }
 
     private static void promisedAndAccepted() {
-        DUE.of("What a node's acceptor has promised, the ballot and the value that it has accepted");
+        DUE.of("has promised (what = 0), the ballot (1) and the value (2) that it has accepted");
         Run run = Run.of(3, 2, 32).decide(1, 1, 2, 6).prepare(2, 1, 4, 9).deliver(0);
         state(run, 0, 1, 14, 7, 6);
         state(run, 2, 1, 7, 7, 6);

@@ -5,8 +5,9 @@ public final class DeliverTest {
 
     public static void main(String[] args) {
         itsKind();
-        noSuchPlace();
-        noMessageInIt();
+        PlaceEdges edges = new PlaceEdges(DUE, "deliver");
+        edges.noSuchPlace();
+        edges.noMessageInIt();
         receiverDown();
         fullForAccepts();
         fullForAccepteds();
@@ -21,8 +22,9 @@ public final class DeliverTest {
         Run prepared = Run.of(3, 1, 16).prepare(1, 0, 1, 6);
         Run accepts = prepared.deliver(0, 1, 0);
         return new Run[] {
-            null, prepared.drop(0, 2), prepared.deliver(0).drop(1, 2), accepts.deliver(1).drop(2, 3),
-            accepts.deliver(1, 0).drop(0, 1, 2, 3), Run.of(3, 1, 16).decide(0, 0, 0, 6).tell(2, 0),
+            null, prepared.drop(0, 2), prepared.deliver(0).drop(1, 2),
+            accepts.deliver(1).drop(2, 3), accepts.deliver(1, 0).drop(0, 1, 2, 3),
+            Run.of(3, 1, 16).decide(0, 0, 0, 6).tell(2, 0),
         };
     }
 
@@ -41,32 +43,6 @@ public final class DeliverTest {
         for (int kind = 1; kind <= 5; kind++) {
             DUE.is(runs[kind], kind, "deliver", placeOf(runs[kind], kind));
         }
-    }
-
-    private static void noSuchPlace() {
-        DUE.of("NONE there is no such place");
-        for (int places : new int[] {5, 6, 32, 63, 64}) {
-            Run run = Run.of(1, 1, places).prepare(0, 0, 0, 4).leaving(0, 0);
-            DUE.is(run, 1, "deliver", 0);
-            DUE.is(run, 1, "deliver", places - 1);
-            for (int m : Due.outside(0, places - 1)) {
-                DUE.unchanged(run, -1, "deliver", m);
-            }
-        }
-    }
-
-    private static void noMessageInIt() {
-        DUE.of("NONE there is no message in it");
-        Run run = Run.of(3, 1, 6).prepare(0, 0, 0, 4);
-        for (int m = 0; m < 3; m++) {
-            DUE.is(run, 1, "deliver", m);
-            DUE.unchanged(run.drop(m), -1, "deliver", m);
-        }
-        for (int m = 3; m < 6; m++) {
-            DUE.unchanged(run, -1, "deliver", m);
-        }
-        Run taken = run.deliver(0, 0);
-        DUE.unchanged(taken, -1, "deliver", 0);
     }
 
     private static void receiverDown() {
@@ -89,8 +65,8 @@ public final class DeliverTest {
     }
 
     // The places of the promises are those of their senders; the last one makes the majority.
-    private static Run lacksOnePromise(int n, int places) {
-        Run run = Run.of(n, 1, places).prepare(0, 0, 2, 7);
+    private static Run lacksOnePromise(int n, int places, int node, int slot) {
+        Run run = Run.of(n, 2, places).prepare(node, slot, 2, 7);
         for (int i = 0; i < Run.majority(n); i++) {
             run = run.deliver(i);
         }
@@ -101,23 +77,19 @@ public final class DeliverTest {
     }
 
     private static void fullForAccepts() {
-        DUE.of("more accepts would be sent than places are empty (with the message's own one): FULL");
+        DUE.of("more accepts would be sent than places are empty (with the message's own): FULL");
         for (int n = 2; n <= 5; n++) {
-            for (int places : new int[] {10, 64}) {
-                Run run = lacksOnePromise(n, places);
-                int m = Run.majority(n) - 1;
-                for (int empty = 0; empty < n - 1; empty++) {
-                    DUE.unchanged(run.leaving(empty, m), FULL, "deliver", m);
+            for (int node = 0; node < n; node++) {
+                for (int slot = 0; slot < 2; slot++) {
+                    Run run = lacksOnePromise(n, 10, node, slot);
+                    int m = Run.majority(n) - 1;
+                    fullBelow(run, n, 2, m);
+                    DUE.is(run.leaving(n - 1, m).deliver(m), 2, "proposer", node, slot, 0);
                 }
-                Run fits = run.leaving(n - 1, m);
-                DUE.is(fits, 2, "deliver", m);
-                DUE.is(fits.deliver(m), places, "count", 0);
-                DUE.is(fits.deliver(m), 2, "proposer", 0, 0, 0);
-                Run roomMade = run.leaving(n - 2, m).deliver(m).drop(places + 1 - n);
-                DUE.is(roomMade, 2, "deliver", m);
             }
+            fullBelow(lacksOnePromise(n, 64, 0, 0), n, 2, Run.majority(n) - 1);
         }
-        Run alone = lacksOnePromise(1, 5).leaving(0, 0);
+        Run alone = lacksOnePromise(1, 5, 0, 0).leaving(0, 0);
         DUE.is(alone, 2, "deliver", 0);
         DUE.is(alone.deliver(0), 3, "message", 0, 0);
     }
@@ -125,23 +97,30 @@ public final class DeliverTest {
     private static void fullForAccepteds() {
         DUE.of("more accepteds would be sent than places are empty (with the message's own): FULL");
         for (int n = 2; n <= 5; n++) {
-            for (int places : new int[] {10, 64}) {
-                Run run = Run.of(n, 1, places).elect(0, 0, 2, 7);
-                int m = n - 1;
-                for (int empty = 0; empty < n - 1; empty++) {
-                    DUE.unchanged(run.leaving(empty, 0), FULL, "deliver", m);
+            for (int m = 0; m < n; m++) {
+                for (int slot = 0; slot < 2; slot++) {
+                    Run run = Run.of(n, 2, 10).elect(0, slot, 2, 7);
+                    fullBelow(run, n, 3, m);
+                    DUE.is(run.leaving(n - 1, m).deliver(m), 2 * n, "acceptor", m, slot, 1);
                 }
-                Run fits = run.leaving(n - 1, 0);
-                DUE.is(fits, 3, "deliver", m);
-                DUE.is(fits.deliver(m), places, "count", 0);
-                DUE.is(fits.deliver(m), 2 * n, "acceptor", m, 0, 1);
-                Run roomMade = run.leaving(n - 2, 0).deliver(m).drop(places + 1 - n);
-                DUE.is(roomMade, 3, "deliver", m);
             }
+            fullBelow(Run.of(n, 2, 64).elect(0, 0, 2, 7), n, 3, n - 1);
         }
         Run alone = Run.of(1, 1, 5).elect(0, 0, 2, 7).leaving(0, 0);
         DUE.is(alone, 3, "deliver", 0);
         DUE.is(alone.deliver(0), 4, "message", 0, 0);
+    }
+
+    // The message in place m is answered to all n nodes: n - 1 places must be empty beside its own.
+    private static void fullBelow(Run run, int n, int kind, int m) {
+        int places = run.model().count(3);
+        for (int empty = 0; empty < n - 1; empty++) {
+            DUE.unchanged(run.leaving(empty, m), FULL, "deliver", m);
+        }
+        DUE.is(run.leaving(n - 1, m), kind, "deliver", m);
+        DUE.is(run.leaving(n - 1, m).deliver(m), places, "count", 0);
+        Run roomMade = run.leaving(n - 2, m).deliver(m).drop(places + 1 - n);
+        DUE.is(roomMade, kind, "deliver", m);
     }
 
     private static void oneAnswerFitsAFullPool() {
@@ -173,7 +152,7 @@ public final class DeliverTest {
             fitsAFullPool(prepared.deliver(0), 2, 0);
             fitsAFullPool(sameSenderAgain(n), 2, n);
             fitsAFullPool(promiseOfAnOlderBallot(n), 2, Run.majority(n) - 1);
-            fitsAFullPool(lacksOnePromise(n, 20).crash(0).restart(0), 2, Run.majority(n) - 1);
+            fitsAFullPool(lacksOnePromise(n, 20, 0, 1).crash(0).restart(0), 2, Run.majority(n) - 1);
             if (n > 2) {
                 fitsAFullPool(promiseBeyondTheMajority(n), 2, Run.majority(n));
             }
@@ -215,7 +194,7 @@ public final class DeliverTest {
     private static void receiverDownFitsAFullPool() {
         DUE.of("if its receiver is down, that is all: nothing is sent that lacks a place");
         for (int n = 2; n <= 5; n++) {
-            fitsAFullPool(lacksOnePromise(n, 20).crash(0), 0, Run.majority(n) - 1);
+            fitsAFullPool(lacksOnePromise(n, 20, 0, 1).crash(0), 0, Run.majority(n) - 1);
             fitsAFullPool(Run.of(n, 1, 20).elect(0, 0, 2, 7).crash(1), 0, 1);
             fitsAFullPool(Run.of(n, 1, 20).prepare(0, 0, 2, 7).crash(1), 0, 1);
         }

@@ -136,7 +136,8 @@ public final class DeliveryTermsTest {
     // Node 1 has accepted 20 with ballot 0, node 2 has accepted 30 with ballot 6, node 3 nothing.
     private static Run twoAccepted() {
         Run run = Run.of(5, 1, 64).elect(0, 0, 0, 20).deliver(1).empty()
-                .prepare(1, 0, 1, 30).deliver(2, 3, 4).drop(0, 1).deliver(2, 3, 4).deliver(2).empty();
+                .prepare(1, 0, 1, 30).deliver(2, 3, 4).drop(0, 1).deliver(2, 3, 4)
+                .deliver(2).empty();
         acceptor(run, 1, 0, 0, 20);
         acceptor(run, 2, 6, 6, 30);
         acceptor(run, 3, 6, -1, 0);

@@ -5,8 +5,9 @@ public final class DropTest {
     public static void main(String[] args) {
         itsKind();
         itIsLost();
-        noSuchPlace();
-        noMessageInIt();
+        PlaceEdges edges = new PlaceEdges(DUE, "drop");
+        edges.noSuchPlace();
+        edges.noMessageInIt();
         DUE.end();
     }
 
@@ -29,35 +30,11 @@ public final class DropTest {
         DUE.is(run.drop(1), 0, "count", 4);
         DUE.is(run.drop(1), 1, "count", 5);
         DUE.is(run.drop(1), -1, "acceptor", 1, 0, 0);
+        DUE.is(run, 1, "drop", 0);
+        DUE.is(run, 1, "drop", 2);
         DUE.of("The message in a place is lost: to a node that is down, too");
         DUE.is(run.crash(1), 1, "drop", 1);
         DUE.is(run.crash(1).drop(1), 0, "count", 4);
         DUE.is(run.crash(1).drop(1), 1, "count", 5);
-    }
-
-    private static void noSuchPlace() {
-        DUE.of("NONE: there is none, as there is no such place");
-        for (int places : new int[] {5, 6, 32, 63, 64}) {
-            Run run = Run.of(1, 1, places).prepare(0, 0, 0, 4).leaving(0, 0);
-            DUE.is(run, 1, "drop", 0);
-            DUE.is(run, 1, "drop", places - 1);
-            DUE.is(run.drop(places - 1), places - 1, "count", 0);
-            for (int m : Due.outside(0, places - 1)) {
-                DUE.unchanged(run, -1, "drop", m);
-            }
-        }
-    }
-
-    private static void noMessageInIt() {
-        DUE.of("NONE: there is none in the place");
-        Run run = Run.of(3, 1, 6).prepare(0, 0, 0, 4);
-        for (int m = 0; m < 3; m++) {
-            DUE.is(run, 1, "drop", m);
-            DUE.unchanged(run.drop(m), -1, "drop", m);
-        }
-        for (int m = 3; m < 6; m++) {
-            DUE.unchanged(run, -1, "drop", m);
-        }
-        DUE.unchanged(run.deliver(0, 0), -1, "drop", 0);
     }
 }

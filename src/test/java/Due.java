@@ -26,7 +26,7 @@ final class Due {
         is(run + " " + call, run.answer(call), want);
     }
 
-    /** A call that is refused, or only looks: the answer, and that nothing has changed behind it. */
+    /** A call that is refused, or only looks: its answer, and nothing has changed behind it. */
     void unchanged(Run run, long want, String name, int... args) {
         is(run, want, name, args);
         alike(run.then(name, args), run);
@@ -78,13 +78,5 @@ final class Due {
             1 << 29, 1 << 30, (1 << 30) + 1, 3 << 30, 613566757, -613566756, 1431655766, 858993460,
         };
         return Arrays.stream(some).filter(x -> x < least || x > greatest).distinct().toArray();
-    }
-
-    /** Lets a node bring a value through for a slot, with all that this sends. */
-    static void decide(DecreePool x, int node, int slot, int round, int value) {
-        x.prepare(node, slot, round, value);
-        while (x.sweep(100) > 0) {
-            // until nothing is left that can be delivered
-        }
     }
 }

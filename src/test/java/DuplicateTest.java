@@ -5,8 +5,9 @@ public final class DuplicateTest {
     public static void main(String[] args) {
         everyFieldOfEachKind();
         thePlaceWhereItIs();
-        noSuchPlace();
-        noMessageInIt();
+        PlaceEdges edges = new PlaceEdges(DUE, "duplicate");
+        edges.noSuchPlace();
+        edges.noMessageInIt();
         full();
         DUE.end();
     }
@@ -40,32 +41,6 @@ public final class DuplicateTest {
         DUE.is(run.drop(0), 0, "duplicate", 2);
         DUE.is(run.drop(1), 1, "duplicate", 0);
         DUE.is(run.duplicate(2), 4, "duplicate", 3);
-    }
-
-    private static void noSuchPlace() {
-        DUE.of("NONE: there is none, as there is no such place");
-        for (int places : new int[] {5, 6, 32, 63, 64}) {
-            Run full = Run.of(1, 1, places).prepare(0, 0, 0, 4).leaving(0, 0);
-            Run oneEmpty = full.drop(1);
-            DUE.is(oneEmpty, 1, "duplicate", 0);
-            DUE.is(oneEmpty, 1, "duplicate", places - 1);
-            for (int m : Due.outside(0, places - 1)) {
-                DUE.unchanged(oneEmpty, -1, "duplicate", m);
-                DUE.unchanged(full, -1, "duplicate", m);
-            }
-        }
-    }
-
-    private static void noMessageInIt() {
-        DUE.of("NONE: there is none in the place");
-        Run run = Run.of(3, 1, 6).prepare(0, 0, 0, 4);
-        for (int m = 0; m < 3; m++) {
-            DUE.unchanged(run.drop(m), -1, "duplicate", m);
-        }
-        for (int m = 3; m < 6; m++) {
-            DUE.unchanged(run, -1, "duplicate", m);
-        }
-        DUE.unchanged(run.deliver(0, 0), -1, "duplicate", 0);
     }
 
     private static void full() {

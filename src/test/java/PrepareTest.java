@@ -39,22 +39,29 @@ public final class PrepareTest {
 
     private static void againForgetsPromises() {
         DUE.of("Preparing a ballot: the phase is 1, no promises, no best one");
-        Run inPhase2 = Run.of(3, 1, 32).decide(0, 0, 0, 6);
-        Run inPhase1 = inPhase2.prepare(0, 0, 1, 8).deliver(0, 0);
-        DUE.is(inPhase1, 1, "proposer", 0, 0, 2);
-        DUE.is(inPhase1, 0, "proposer", 0, 0, 3);
-        Run inPhase0 = inPhase1.crash(0).restart(0);
-        for (Run run : new Run[] {inPhase0, inPhase1, inPhase2}) {
-            Run again = run.prepare(0, 0, 2, 8);
-            DUE.is(again, 1, "proposer", 0, 0, 0);
-            DUE.is(again, 6, "proposer", 0, 0, 1);
-            DUE.is(again, 0, "proposer", 0, 0, 2);
-            DUE.is(again, -1, "proposer", 0, 0, 3);
-            DUE.is(again, 0, "proposer", 0, 0, 4);
+        for (int node = 0; node < 3; node++) {
+            for (int slot = 0; slot < 2; slot++) {
+                forgetsPromises(node, slot);
+            }
         }
         DUE.of("with a wish");
         Run twice = Run.of(1, 1, 5).prepare(0, 0, 0, 8).drop(0).prepare(0, 0, 1, 9).sweep(2);
         DUE.is(twice, 9, "proposer", 0, 0, 4);
+    }
+
+    private static void forgetsPromises(int node, int slot) {
+        Run inPhase2 = Run.of(3, 2, 32).decide(node, slot, 0, 6);
+        Run inPhase1 = inPhase2.prepare(node, slot, 1, 8).deliver(0, 0);
+        DUE.is(inPhase2, 2, "proposer", node, slot, 2);
+        DUE.is(inPhase1, 1, "proposer", node, slot, 2);
+        DUE.is(inPhase1, node, "proposer", node, slot, 3);
+        Run inPhase0 = inPhase1.crash(node).restart(node);
+        for (Run run : new Run[] {inPhase0, inPhase1, inPhase2}) {
+            int[] want = {1, 6 + node, 0, -1, 0};
+            for (int what = 0; what < 5; what++) {
+                DUE.is(run.prepare(node, slot, 2, 8), want[what], "proposer", node, slot, what);
+            }
+        }
     }
 
     private static void noSuchNode() {

@@ -46,6 +46,10 @@ public final class SweepTest {
         for (int k = 0; k < 18; k++) {
             DUE.alike(run.sweep(k + 1), run.sweep(k).sweep(1));
         }
+        Run told = run.sweep(100).tell(1, 0);
+        DUE.is(told, 2, "sweep", 2);
+        DUE.is(told, 3, "sweep", 3);
+        DUE.is(told, 3, "sweep", 4);
     }
 
     private static void aHundred() {
